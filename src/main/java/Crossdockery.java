@@ -269,7 +269,11 @@ public final class Crossdockery {
     }
 
     private boolean isInvoicedAlike(Lorry lorry, Dock anew) {
-        Lorry again = anew.existingLorry(lorry.number);
+        // Beyond the most events, what happens is not kept: the lorry may be missing anew.
+        if (lorry.number < 0 || lorry.number >= anew.lorries.size()) {
+            return false;
+        }
+        Lorry again = anew.lorries.get(lorry.number);
         for (int debtor = NONE; debtor < dock.lorries.size(); debtor++) {
             if (lorry.centsFrom(debtor) != again.centsFrom(debtor)) {
                 return false;

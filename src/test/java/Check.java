@@ -23,8 +23,16 @@ final class Check {
             call.run();
             return "no exception";
         } catch (RuntimeException e) {
-            return e.getClass().getSimpleName();
+            return nameOf(e);
         }
+    }
+
+    /** The exception's name; one that the machine or the library threw, not the program, is told as such. */
+    static String nameOf(RuntimeException e) {
+        StackTraceElement[] trace = e.getStackTrace();
+        String name = e.getClass().getSimpleName();
+        boolean isThrownByCode = trace.length > 0 && !trace[0].getClassName().startsWith("java");
+        return isThrownByCode ? name : "the machine's " + name;
     }
 
     static int countWrong() {
