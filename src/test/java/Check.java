@@ -31,7 +31,7 @@ final class Check {
     static String nameOf(RuntimeException e) {
         StackTraceElement[] trace = e.getStackTrace();
         String name = e.getClass().getSimpleName();
-        boolean isThrownByCode = trace.length > 0 && !trace[0].getClassName().startsWith("java");
+        boolean isThrownByCode = trace.length > 0 && trace[0].getClassName().indexOf('.') < 0;
         return isThrownByCode ? name : "the machine's " + name;
     }
 
