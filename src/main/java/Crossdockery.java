@@ -613,10 +613,8 @@ public final class Crossdockery {
             }
         }
 
+        // Only lorries at doors are ever handled, and they are looked at anew in each minute.
         void handleUnits() {
-            for (int i = 0; i < lorries.size(); i++) {
-                lorries.get(i).isHandled = false;
-            }
             for (int door = 0; door < atDoor.length; door++) {
                 Lorry lorry = atDoor[door];
                 if (lorry != null) {

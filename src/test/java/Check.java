@@ -1,16 +1,47 @@
 /** What the tests say with: it counts the answers that are not due, and prints them. */
 final class Check {
+    static final Class<IndexOutOfBoundsException> INDEX = IndexOutOfBoundsException.class;
+    static final Class<IllegalArgumentException> ARGUMENT = IllegalArgumentException.class;
+    static final Class<IllegalStateException> STATE = IllegalStateException.class;
+    static final Class<UnsupportedOperationException> UNSUPPORTED = UnsupportedOperationException.class;
+    static final Class<java.util.NoSuchElementException> ELEMENT = java.util.NoSuchElementException.class;
+    static final Class<ArithmeticException> ARITHMETIC = ArithmeticException.class;
+
     private static int checks = 0;
     private static int wrong = 0;
+    private static String heading = "";
+    private static final int MOST_SECONDS = 300;
+
+    // A call that fails to end must fail the test too.
+    static {
+        Thread watch = new Thread(Check::endLateTest);
+        watch.setDaemon(true);
+        watch.start();
+    }
 
     private Check() {
+    }
+
+    private static void endLateTest() {
+        try {
+            Thread.sleep(1000L * MOST_SECONDS);
+        } catch (InterruptedException e) {
+            return;
+        }
+        System.out.println(heading + "did not end in " + MOST_SECONDS + " seconds");
+        Runtime.getRuntime().halt(1);
+    }
+
+    /** All that is checked from now on is printed behind these words. */
+    static void under(String words) {
+        heading = words + " | ";
     }
 
     static void same(String what, Object got, Object due) {
         checks++;
         if (!due.equals(got)) {
             wrong++;
-            System.out.println(what + " answered " + got + ", due is " + due);
+            System.out.println(heading + what + " answered " + got + ", due is " + due);
         }
     }
 
